@@ -368,12 +368,12 @@ public final class SoftStairs {
         }
 
         int complains(int spot, int sensor) {
-            return sensors >> (SENSORS_OF_SPOT * spot + sensor) & 1;
+            return (sensors >> (SENSORS_OF_SPOT * spot + sensor)) & 1;
         }
 
         void setComplaint(int spot, int sensor, int on) {
             int bit = SENSORS_OF_SPOT * spot + sensor;
-            sensors = sensors & ~(1 << bit) | on << bit;
+            sensors = (sensors & ~(1 << bit)) | (on << bit);
         }
 
         boolean ruleHolds() {
@@ -532,7 +532,7 @@ public final class SoftStairs {
 
         void append(long characters, int added) {
             for (int i = added - 1; i >= 0 && length < PAD_LENGTH; i--) {
-                text[length] = (char) (characters >>> (8 * i) & 255);
+                text[length] = (char) ((characters >>> (8 * i)) & 255);
                 length++;
             }
         }
@@ -661,7 +661,7 @@ public final class SoftStairs {
 
         private boolean letterHolds(int letter, int sensors) {
             int spot = letter % SPOTS;
-            int pair = sensors >> (SENSORS_OF_SPOT * spot) & 3;
+            int pair = (sensors >> (SENSORS_OF_SPOT * spot)) & 3;
             return letter < SPOTS ? pair != 0 : pair == 3;
         }
 
@@ -671,7 +671,7 @@ public final class SoftStairs {
         }
 
         private boolean isIn(long set, int part) {
-            return (set >> part & 1) != 0;
+            return ((set >> part) & 1) != 0;
         }
     }
 

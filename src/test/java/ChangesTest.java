@@ -165,13 +165,17 @@ public final class ChangesTest {
         x.sense(2, 1, 1);
         Check.due("restart while the rule holds", x.restart(), SoftStairs.NOT_POSSIBLE);
         x.sense(2, 1, 0);
-        int before = x.count(19);
         Check.due("restart", x.restart(), 2);
-        Check.due("a change", x.count(19), Math.min(6, before + 1));
         Check.due("running", x.count(4), 0);
         Check.due("from the speed 0", x.count(3), 0);
         x.pass(1);
         Check.due("faster", x.count(3), 6);
+        SoftStairs y = new SoftStairs();
+        y.stop();
+        y.pass(1);
+        y.restart();
+        Check.due("restart is a change", y.undo(), 2);
+        Check.due("stopped again", y.count(4), 2);
     }
 
     private static void pass() {
@@ -212,6 +216,12 @@ public final class ChangesTest {
         x.set(SoftStairs.PER, 1);
         x.pass(3);
         Check.due("nor below 0", x.count(3), 10);
+
+        SoftStairs y = new SoftStairs();
+        y.set(SoftStairs.PER, 1);
+        y.come(23);
+        y.pass(9);
+        Check.due("one less for each kilogram", y.count(3), 27);
     }
 
     private static void speedChangesByRamp() {

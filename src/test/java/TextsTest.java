@@ -163,7 +163,7 @@ public final class TextsTest {
             case 0: x.set(SoftStairs.SLOW, 20); break;
             case 1: x.sense(1, 1, 1); break;
             case 2: x.load(); break;
-            case 3: x.pass(40); break;
+            case 3: x.pass(200); break;
             case 4: x.stop(); break;
             default: x.pass(20); break;
         }
