@@ -41,6 +41,13 @@ final class Calls {
         }
     }
 
+    /** Lets ticks pass up to a tick, with as few calls as it takes. */
+    static void passTo(SoftStairs x, int tick) {
+        for (int left = tick - x.count(0); left > 0; left -= 999) {
+            x.pass(Math.min(999, left));
+        }
+    }
+
     static String times(String text, int number) {
         StringBuilder all = new StringBuilder();
         for (int i = 0; i < number; i++) {
@@ -49,7 +56,7 @@ final class Calls {
         return all.toString();
     }
 
-    /** Everything that an object tells, in a text: two objects in the same state have the same. */
+    /** What undo() takes back and save() keeps, in a text: two objects in the same state have the same. */
     static String seen(SoftStairs x) {
         StringBuilder all = new StringBuilder();
         for (int what = 0; what <= 17; what++) {
@@ -59,9 +66,9 @@ final class Calls {
             all.append(x.of(who, 0)).append('/').append(x.of(who, 1)).append('/').append(x.of(who, 2)).append(' ');
         }
         for (int spot = 0; spot < 4; spot++) {
-            all.append(x.ofSpot(spot, 0)).append(x.ofSpot(spot, 1)).append(x.ofSpot(spot, 2)).append(' ');
+            all.append(x.ofSpot(spot, 0)).append(x.ofSpot(spot, 1)).append('/').append(x.ofSpot(spot, 2)).append(' ');
         }
-        for (int stop = 0; stop < 6; stop++) {
+        for (int stop = 0; stop < 6 && x.ofStop(stop, 0) >= 0; stop++) {
             for (int what = 0; what < 5; what++) {
                 all.append(x.ofStop(stop, what)).append(' ');
             }
@@ -69,9 +76,21 @@ final class Calls {
         for (int what = 0; what < 5; what++) {
             all.append(x.rule(what)).append(' ');
         }
-        for (int set = 0; set < 256; set++) {
+        return all.append(truth(x)).toString();
+    }
+
+    /** Some of what the rule answers: no object is used for more than 512 calls, so not all 256 sets are asked. */
+    private static String truth(SoftStairs x) {
+        StringBuilder all = new StringBuilder();
+        int[] sets = {0, 1, 2, 3, 4, 12, 16, 48, 64, 192, 15, 51, 195, 255};
+        for (int set : sets) {
             all.append(x.wouldHold(set));
         }
-        return all.toString();
+        return all.append(' ').append(x.fewest()).toString();
+    }
+
+    /** Everything that an object tells, the pad and the length of the history, too. */
+    static String all(SoftStairs x) {
+        return seen(x) + " pad " + x.count(18) + "/" + x.fault() + " history " + x.count(19);
     }
 }

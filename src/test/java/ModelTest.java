@@ -2,6 +2,7 @@
 public final class ModelTest {
     private static final int RUNS = 1500;
     private static final int CALLS = 512;
+    private static final int LONGEST_STEP = 40;
 
     private long seed;
     private final SoftStairs x = new SoftStairs();
@@ -17,8 +18,11 @@ public final class ModelTest {
     public static void main(String[] args) {
         for (int run = 0; run < RUNS; run++) {
             ModelTest test = new ModelTest(run);
-            while (test.made < CALLS) {
+            while (test.made <= CALLS - LONGEST_STEP) {
                 test.step();
+            }
+            while (test.made < CALLS) {
+                test.stepLast();
             }
         }
         Check.end("ModelTest");
@@ -209,6 +213,16 @@ public final class ModelTest {
 
     private void stepLook() {
         for (int what = -1; what <= 20; what++) {
+            due("count(" + what + ")", x.count(what), model.count(what));
+        }
+    }
+
+    /** One call: so the last one is call 512. */
+    private void stepLast() {
+        int what = below(20);
+        if (what == 0) {
+            due("pass(7)", x.pass(7), model.pass(7));
+        } else {
             due("count(" + what + ")", x.count(what), model.count(what));
         }
     }

@@ -134,21 +134,18 @@ public final class TextsTest {
     }
 
     private static void undo() {
-        SoftStairs x = new SoftStairs();
-        Check.due("nothing to undo", x.undo(), SoftStairs.NOT_POSSIBLE);
-        x.put(Calls.packed("a"));
-        String[] seen = new String[7];
-        x.come(80);
-        x.come(90);
-        x.pass(3);
-        for (int i = 0; i < 6; i++) {
-            seen[i] = Calls.seen(x);
-            change(x, i);
-            Check.due("changes", x.count(19), Math.min(6, 4 + i));
+        Check.due("nothing to undo", new SoftStairs().undo(), SoftStairs.NOT_POSSIBLE);
+        for (int left = 0; left < 6; left++) {
+            int made = left;
+            Check.due("changes", States.made(x -> changes(x, made)).count(19), Math.min(6, 3 + made));
+            States.sameStairs("as before change " + made, x -> changes(x, made), x -> {
+                changes(x, 6);
+                States.undo(x, 6 - made);
+            });
         }
+        SoftStairs x = States.made(s -> changes(s, 6));
         for (int i = 5; i >= 0; i--) {
             Check.due("undo", x.undo(), i);
-            Check.holds("as before change " + i, seen[i].equals(Calls.seen(x)));
             Check.due("can be undone", x.count(19), i);
         }
         Check.due("no more", x.undo(), SoftStairs.NOT_POSSIBLE);
@@ -156,6 +153,16 @@ public final class TextsTest {
         Check.due("a change again", x.come(7), 3);
         Check.due("undone", x.undo(), 0);
         Check.due("two", x.count(1), 2);
+    }
+
+    private static void changes(SoftStairs x, int number) {
+        x.put(Calls.packed("a"));
+        x.come(80);
+        x.come(90);
+        x.pass(3);
+        for (int i = 0; i < number; i++) {
+            change(x, i);
+        }
     }
 
     private static void change(SoftStairs x, int number) {
