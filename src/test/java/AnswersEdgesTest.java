@@ -51,7 +51,7 @@ public final class AnswersEdgesTest {
         int[] bad = {LOWEST, -1, 3, HIGHEST};
         int[] numbers = {0, 1, 19, 20};
         for (int people : numbers) {
-            SoftStairs x = States.made(s -> TermsEdgesTest.come(s, people, 7));
+            SoftStairs x = States.made(s -> Calls.come(s, people, 7));
             int[] none = {LOWEST, -1, people, people + 1, 20, HIGHEST};
             for (int who : none) {
                 all("of", x::of, who, whats, SoftStairs.NO_SUCH);
@@ -115,7 +115,8 @@ public final class AnswersEdgesTest {
     }
 
     private static void ticksOneAfterTheOther() {
-        Check.about("ticks that passed so, one after the other, up to the latest one (sense() alone changes nothing of that)");
+        Check.about("ticks that passed so, one after the other, up to the latest one (sense() alone changes "
+            + "nothing of that)");
         SoftStairs x = new SoftStairs();
         x.sense(3, 1, 1);
         Check.due("no tick", x.ofSpot(3, 2), 0);
@@ -188,13 +189,14 @@ public final class AnswersEdgesTest {
     }
 
     private static void stopAtItsEnds() {
-        Check.about("0 the tick in which it began, 1 the speed then, 2 the load then, 3 the sensors that complained, as a set, 4 whether it was by hand");
+        Check.about("0 the tick in which it began, 1 the speed then, 2 the load then, 3 the sensors that "
+            + "complained, as a set, 4 whether it was by hand");
         SoftStairs nothing = new SoftStairs();
         nothing.stop();
         facts(nothing, new int[] {0, 0, 0, 0, 1});
         SoftStairs all = new SoftStairs();
         Calls.passTo(all, 99998);
-        TermsEdgesTest.come(all, 20, 200);
+        Calls.come(all, 20, 200);
         Calls.senseAll(all, 255);
         all.pass(1);
         facts(all, new int[] {99998, 10, 4000, 255, 0});
@@ -226,7 +228,8 @@ public final class AnswersEdgesTest {
     }
 
     private static void partsAndDepth() {
-        Check.about("0 its parts (each letter, each \"!\", \"&\" and \"|\" is one), 1 how deep it is, 3 its letters, as a set");
+        Check.about("0 its parts (each letter, each \"!\", \"&\" and \"|\" is one), 1 how deep it is, 3 its "
+            + "letters, as a set");
         ruleIs("a", 1, 1, 1);
         ruleIs("(a)", 1, 1, 1);
         ruleIs("!D", 2, 2, 128);
@@ -243,14 +246,15 @@ public final class AnswersEdgesTest {
     }
 
     private static void partsLookedAt() {
-        Check.about("4 how many of its parts are looked at (\"&\" does not look at its second part if the first one does not hold, \"|\" does not if the first one holds)");
+        Check.about("4 how many of its parts are looked at (\"&\" does not look at its second part if the first "
+            + "one does not hold, \"|\" does not if the first one holds)");
         int[] sets = {0, 1, 4, 5};
         int[] and = {2, 3, 2, 3};
         int[] or = {3, 2, 3, 2};
         for (int i = 0; i < 4; i++) {
             Check.due("a&b in " + sets[i], looked("a&b", sets[i]), and[i]);
             Check.due("a|b in " + sets[i], looked("a|b", sets[i]), or[i]);
-            Check.due("a|b|!a&(b|!b) in " + sets[i], looked("(a&b)|!(a&b)", sets[i]), and[i] + (i == 3 ? 1 : 2 + and[i]));
+            Check.due("(a&b)|!(a&b) in " + sets[i], looked("(a&b)|!(a&b)", sets[i]), and[i] + (i == 3 ? 1 : 2 + and[i]));
         }
         Check.due("a alone", looked("a", 0), 1);
         Check.due("none of the first 29 holds", looked(Calls.times("a|", 29) + "a", 4), 59);
@@ -507,7 +511,8 @@ public final class AnswersEdgesTest {
     }
 
     private static void lowestOfTheFewest() {
-        Check.about("the fewest sensors that would let the rule hold if just these complained, of several sets the lowest one; NONE if there is none");
+        Check.about("the fewest sensors that would let the rule hold if just these complained, of several sets "
+            + "the lowest one; NONE if there is none");
         String[] rules = {"!a", "a|!a", "a", "d", "A", "D", "d|a", "A|d", "D|A", "A|a&b", "A&!a", "a&!a",
             "A&B&C&D", "!(A&B&C&D)", "b&c&d", "d&(B|C)", "a&!A", "b&!A|A&!b"};
         int[] sets = {0, 0, 1, 64, 3, 192, 1, 64, 3, 3, SoftStairs.NONE, SoftStairs.NONE,

@@ -35,6 +35,12 @@ final class Calls {
         return x;
     }
 
+    static void come(SoftStairs x, int number, int weight) {
+        for (int i = 0; i < number; i++) {
+            x.come(weight);
+        }
+    }
+
     static void senseAll(SoftStairs x, int sensors) {
         for (int bit = 0; bit < 8; bit++) {
             x.sense(bit / 2, bit % 2, sensors >> bit & 1);

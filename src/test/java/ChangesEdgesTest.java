@@ -125,7 +125,7 @@ public final class ChangesEdgesTest {
     }
 
     private static void full(SoftStairs x) {
-        TermsEdgesTest.come(x, 20, 3);
+        Calls.come(x, 20, 3);
     }
 
     private static void fullAndStopping(SoftStairs x) {
@@ -137,7 +137,7 @@ public final class ChangesEdgesTest {
     private static void thereAre20() {
         Check.about("TOO_MANY if there are 20");
         SoftStairs x = new SoftStairs();
-        TermsEdgesTest.come(x, 19, 3);
+        Calls.come(x, 19, 3);
         Check.due("the 20th", x.come(3), 20);
         Check.due("the 21st", x.come(3), SoftStairs.TOO_MANY);
         States.unchanged("come(1)", ChangesEdgesTest::full, s -> s.come(1), SoftStairs.TOO_MANY);
@@ -150,7 +150,7 @@ public final class ChangesEdgesTest {
         SoftStairs x = new SoftStairs();
         x.come(1);
         x.pass(23);
-        TermsEdgesTest.come(x, 19, 2);
+        Calls.come(x, 19, 2);
         Check.due("full", x.come(3), SoftStairs.TOO_MANY);
         x.pass(1);
         Check.due("one is off", x.count(1), 19);
@@ -234,7 +234,7 @@ public final class ChangesEdgesTest {
         Check.about("Lets the stairs run again. Returns how many people are on them");
         for (int people = 0; people <= 20; people += 20) {
             SoftStairs x = new SoftStairs();
-            TermsEdgesTest.come(x, people, 1);
+            Calls.come(x, people, 1);
             x.stop();
             x.pass(1);
             Check.due("restart()", x.restart(), people);

@@ -51,8 +51,9 @@ public final class TermsEdgesTest {
     }
 
     private static void firstErrorIsReturned() {
-        Check.about("it names its errors in the order in which they are checked, and the first one that applies is returned");
-        SoftStairs full = States.made(x -> come(x, 20, 1));
+        Check.about("it names its errors in the order in which they are checked, and the first one that applies "
+            + "is returned");
+        SoftStairs full = States.made(x -> Calls.come(x, 20, 1));
         Check.due("come(0) with 20 people", full.come(0), SoftStairs.BAD_VALUE);
         full.stop();
         Check.due("come(201) with 20 people, stopping", full.come(201), SoftStairs.BAD_VALUE);
@@ -169,7 +170,8 @@ public final class TermsEdgesTest {
     }
 
     private static void wayIs1000Long() {
-        Check.about("The way is 1000 units long; a place (0 to 999 units; 0 as one steps on); those who come to 1000 or more are off");
+        Check.about("The way is 1000 units long; a place (0 to 999 units; 0 as one steps on); those who come to "
+            + "1000 or more are off");
         SoftStairs on = from972(27);
         Check.due("place 999", on.of(0, 0), 999);
         Check.due("people at 999", on.count(1), 1);
@@ -182,12 +184,6 @@ public final class TermsEdgesTest {
             Check.due("off at " + (972 + speed), off.count(5), 1);
             Check.due("their weight", off.count(6), 40);
             Check.due("units", off.count(9), 972 + speed);
-        }
-    }
-
-    static void come(SoftStairs x, int number, int weight) {
-        for (int i = 0; i < number; i++) {
-            x.come(weight);
         }
     }
 
@@ -204,6 +200,10 @@ public final class TermsEdgesTest {
         x.pass(30);
         Check.due("all 20 are off", x.count(5), 20);
         Check.due("nobody", x.count(1), 0);
+        Check.due("the first one again", x.come(99), 1);
+        Check.due("place", x.of(0, 0), 0);
+        Check.due("weight", x.of(0, 1), 99);
+        Check.due("ticks", x.of(0, 2), 0);
     }
 
     private static void loadIsAllWeights() {
@@ -213,7 +213,7 @@ public final class TermsEdgesTest {
         x.come(1);
         Check.due("one kilogram", x.count(2), 1);
         x.undo();
-        come(x, 20, 200);
+        Calls.come(x, 20, 200);
         Check.due("20 times 200", x.count(2), 4000);
         x.pass(200);
         Check.due("all off", x.count(2), 0);
@@ -265,7 +265,8 @@ public final class TermsEdgesTest {
     }
 
     private static void notAndOr() {
-        Check.about("\"!\": that part does not hold; \"&\": both hold; \"|\": the first one holds, or, if it does not, the second one");
+        Check.about("\"!\": that part does not hold; \"&\": both hold; \"|\": the first one holds, or, if it "
+            + "does not, the second one");
         int[] sets = {0, 1, 4, 5};
         int[] and = {0, 0, 0, 1};
         int[] or = {0, 1, 1, 1};
@@ -354,7 +355,8 @@ public final class TermsEdgesTest {
     }
 
     private static void moreThanIdle() {
-        Check.about("if nobody is on the stairs, and this tick and those ahead of it, one after the other, behind which nobody was on them are more than IDLE");
+        Check.about("if nobody is on the stairs, and this tick and those ahead of it, one after the other, "
+            + "behind which nobody was on them are more than IDLE");
         SoftStairs x = new SoftStairs();
         x.set(SoftStairs.RAMP, 30);
         x.pass(20);
@@ -534,7 +536,8 @@ public final class TermsEdgesTest {
     }
 
     private static void firstCharacterThatCannotStand() {
-        Check.about("The fault is the index of the first character that cannot stand at its place when the text is read from left to right");
+        Check.about("The fault is the index of the first character that cannot stand at its place when the text "
+            + "is read from left to right");
         String[] texts = {"&", "|", ")", "ab", "a(", "a!", "a)", "()", "(&", "!&", "!)", "a&)", "a||b", "(a))",
             "(a(", "(a)b", "((a)|b)c", "x&y"};
         int[] faults = {0, 0, 0, 1, 1, 1, 1, 1, 1, 1, 1, 2, 2, 3, 2, 3, 7, 0};

@@ -1,8 +1,15 @@
+import java.util.List;
 import java.util.function.Consumer;
+import java.util.function.ToIntFunction;
 
 /** The boundary cases of promises 18 to 24, a test for each sentence. */
 public final class TextsEdgesTest {
     private static final int LOWEST = Integer.MIN_VALUE, HIGHEST = Integer.MAX_VALUE;
+    private static final List<Consumer<SoftStairs>> RUNS = List.of(
+        x -> { }, States::running, States::stopping, States::stopped, TextsEdgesTest::usedForLong);
+    private static final List<ToIntFunction<SoftStairs>> CHANGES = List.of(
+        x -> x.set(SoftStairs.HEAVY, 1), x -> x.come(44), x -> x.sense(0, 1, 1), SoftStairs::stop, SoftStairs::restart,
+        x -> x.pass(150), SoftStairs::load, x -> x.restore(0), x -> x.restore(1));
 
     private TextsEdgesTest() { }
 
@@ -21,10 +28,12 @@ public final class TextsEdgesTest {
         noneToUndo();
         everyChangeIsRecorded();
         onlyChangesAreRecorded();
+        asItWasBefore();
         exceptPadAndSlots();
         historyBehindAnUndo();
         savedInTwoSlots();
         noSuchSlotToSave();
+        everythingIsSaved();
         overwritten();
         noSuchSlotToRestore();
         nothingWasSaved();
@@ -39,7 +48,8 @@ public final class TextsEdgesTest {
     }
 
     private static void oneTo8Characters() {
-        Check.about("its lowest 8 bits are the last character, the next 8 bits the one before, and so on (1 to 8 characters)");
+        Check.about("its lowest 8 bits are the last character, the next 8 bits the one before, and so on (1 to "
+            + "8 characters)");
         String text = "a&!b|(C)";
         int[] faults = {SoftStairs.NONE, 2, 3, SoftStairs.NONE, 5, 6, 7, SoftStairs.NONE};
         for (int length = 1; length <= 8; length++) {
@@ -253,7 +263,7 @@ public final class TextsEdgesTest {
             int made = number;
             int kept = Math.min(6, number);
             Consumer<SoftStairs> run = x -> {
-                TermsEdgesTest.come(x, made, 3);
+                Calls.come(x, made, 3);
                 x.put(Calls.packed("a"));
                 States.undo(x, kept);
             };
@@ -266,7 +276,8 @@ public final class TextsEdgesTest {
     }
 
     private static void everyChangeIsRecorded() {
-        Check.about("each method that is a change, and returns no error, records the state before it (also if nothing is different then)");
+        Check.about("each method that is a change, and returns no error, records the state before it (also if "
+            + "nothing is different then)");
         SoftStairs x = new SoftStairs();
         x.save(0);
         x.set(SoftStairs.FULL, 50);
@@ -316,6 +327,50 @@ public final class TextsEdgesTest {
         x.save(1);
     }
 
+    /** Some are off, ticks passed with nobody there, and one has just stepped on. */
+    private static void usedForLong(SoftStairs x) {
+        States.stopped(x);
+        x.restart();
+        x.pass(150);
+        x.stop();
+        x.pass(20);
+        x.restart();
+        x.pass(5);
+        x.come(33);
+    }
+
+    private static void asItWasBefore() {
+        Check.about("everything is as it was before it");
+        int compared = 0;
+        for (Consumer<SoftStairs> run : RUNS) {
+            for (ToIntFunction<SoftStairs> change : CHANGES) {
+                if (change.applyAsInt(States.made(run)) >= 0) {
+                    String label = "change " + CHANGES.indexOf(change) + " of run " + RUNS.indexOf(run);
+                    States.sameStairs(label, run, run.andThen(change::applyAsInt).andThen(SoftStairs::undo));
+                    compared++;
+                }
+            }
+        }
+        Check.due("changes that can be made", compared, 5 + 8 + 6 + 7 + 8);
+    }
+
+    private static void everythingIsSaved() {
+        Check.about("Saves everything except the pad, the history and the slots in a slot");
+        for (Consumer<SoftStairs> run : RUNS) {
+            for (int number = 0; number <= 1; number++) {
+                int slot = number;
+                String label = "run " + RUNS.indexOf(run) + ", slot " + slot;
+                States.sameStairs(label, run, run.andThen(x -> {
+                    x.save(slot);
+                    for (ToIntFunction<SoftStairs> change : CHANGES.subList(0, 7)) {
+                        change.applyAsInt(x);
+                    }
+                    x.restore(slot);
+                }));
+            }
+        }
+    }
+
     private static void exceptPadAndSlots() {
         Check.about("everything except the pad, the slots and the history is as it was before it");
         SoftStairs x = new SoftStairs();
@@ -340,7 +395,7 @@ public final class TextsEdgesTest {
         Check.about("Undoes the latest change (also behind an undo, from a full history)");
         SoftStairs x = new SoftStairs();
         for (int round = 0; round < 9; round++) {
-            TermsEdgesTest.come(x, 8, 1);
+            Calls.come(x, 8, 1);
             Check.due("full, round " + round, x.count(19), 6);
             States.undo(x, 4);
             Check.due("two are left", x.count(19), 2);
@@ -360,7 +415,7 @@ public final class TextsEdgesTest {
         for (int slot = 0; slot <= 1; slot++) {
             SoftStairs x = new SoftStairs();
             Check.due("save(" + slot + "), nobody", x.save(slot), 0);
-            TermsEdgesTest.come(x, 20, 9);
+            Calls.come(x, 20, 9);
             Check.due("save(" + slot + "), 20", x.save(slot), 20);
             Check.due("the other slot", x.restore(1 - slot), SoftStairs.NOT_POSSIBLE);
         }
@@ -376,7 +431,8 @@ public final class TextsEdgesTest {
     }
 
     private static void overwritten() {
-        Check.about("Saves everything except the pad, the history and the slots in a slot, and overwrites what was saved there");
+        Check.about("Saves everything except the pad, the history and the slots in a slot, and overwrites what "
+            + "was saved there");
         for (int number = 0; number <= 1; number++) {
             int slot = number;
             States.sameStairs("overwritten, slot " + slot, States::stopped, x -> {
