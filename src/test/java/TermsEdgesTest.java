@@ -42,12 +42,14 @@ public final class TermsEdgesTest {
         }
         Check.due("call 512, set(RAMP, 30)", x.set(SoftStairs.RAMP, 30), 1 + 511 % 30);
         SoftStairs y = new SoftStairs();
-        for (int i = 1; i <= 255; i++) {
+        for (int i = 1; i <= 254; i++) {
             y.put(Calls.packed("!a"));
             y.load();
         }
         y.put(Calls.packed("b|C"));
-        Check.due("call 512, load()", y.load(), 3);
+        Check.due("call 510, load()", y.load(), 3);
+        Check.due("call 511, wouldHold(4)", y.wouldHold(4), 1);
+        Check.due("call 512, wouldHold(16)", y.wouldHold(16), 0);
     }
 
     private static void firstErrorIsReturned() {
